@@ -29,12 +29,14 @@ public final class ThreeReels {
     private final int[] counts = new int[PICTURES];
     private final PayTable table = new PayTable();
     private final Survey survey = new Survey();
+    private final PayCounts payCounts = new PayCounts();
     private final Till till = new Till();
     private final Sightings sightings = new Sightings();
     private final Chances chances = new Chances();
     private final long[] weights = new long[PICTURES];
     private int lineCount = 1;
     private boolean surveyed = false;
+    private boolean paysCounted = false;
 
     public ThreeReels() {
     }
@@ -47,7 +49,7 @@ public final class ThreeReels {
         }
         strips.blank(reel, n);
         sightings.forget();
-        surveyed = false;
+        forgetFound();
         return 1;
     }
 
@@ -57,7 +59,7 @@ public final class ThreeReels {
         }
         int before = strips.shown(reel, stop);
         strips.put(reel, stop, p);
-        surveyed = false;
+        forgetFound();
         return before;
     }
 
@@ -87,7 +89,7 @@ public final class ThreeReels {
         }
         strips.layEven(reel, n, counts);
         sightings.forget();
-        surveyed = false;
+        forgetFound();
         return n;
     }
 
@@ -98,12 +100,12 @@ public final class ThreeReels {
         if (table.size >= MOST_PAYS) {
             return FULL;
         }
-        surveyed = false;
+        forgetFound();
         return table.add(a, b, c, v);
     }
 
     public int clear() {
-        surveyed = false;
+        forgetFound();
         return table.empty();
     }
 
@@ -113,7 +115,7 @@ public final class ThreeReels {
         }
         int before = lineCount;
         lineCount = v;
-        surveyed = false;
+        forgetFound();
         return before;
     }
 
@@ -304,8 +306,8 @@ public final class ThreeReels {
         if (!within(h, 0, till.space) || !within(t, 0, MOST_GAMES_AHEAD)) {
             return BAD;
         }
-        surveyEndings();
-        return bitsOf(chances.runsDry(h, t, lineCount, till.space, survey.pays, strips.endings()));
+        countPays();
+        return bitsOf(chances.runsDry(h, t, lineCount, till.space, payCounts, strips.endings()));
     }
 
     public int favoured(int reel) {
@@ -385,7 +387,12 @@ public final class ThreeReels {
         return pays;
     }
 
-    /** Looks at all endings once; what it finds holds until strips, pays or lines change. */
+    /** What was found out about all endings holds until strips, pays or lines change. */
+    private void forgetFound() {
+        surveyed = false;
+        paysCounted = false;
+    }
+
     private void surveyEndings() {
         if (surveyed) {
             return;
@@ -401,11 +408,27 @@ public final class ThreeReels {
         surveyed = true;
     }
 
+    private void countPays() {
+        if (paysCounted) {
+            return;
+        }
+        payCounts.begin();
+        for (int a = 0; a < strips.stopsOf(0); a++) {
+            for (int b = 0; b < strips.stopsOf(1); b++) {
+                for (int c = 0; c < strips.stopsOf(2); c++) {
+                    payCounts.add(endingPays(a, b, c));
+                }
+            }
+        }
+        paysCounted = true;
+    }
+
     private long worthOf(int a, int b, int c, int held) {
         long pays = held == ALL_HELD ? endingPays(a, b, c) : survey.heldPays(a, b, c, held);
         return pays * strips.stopsHeld(held);
     }
 
+    /** The survey must stand. */
     private int bestHold(int a, int b, int c) {
         int best = 0;
         long most = worthOf(a, b, c, 0);
@@ -472,9 +495,21 @@ public final class ThreeReels {
         private final int[] stops = new int[REELS];
         private final int[] pictures = new int[REELS * MOST_STOPS];
         private final int[] laid = new int[PICTURES];
+        private final int[] products = new int[ALL_HELD + 1];
 
         Strips() {
             Arrays.fill(stops, FEWEST_STOPS);
+            multiply();
+        }
+
+        private void multiply() {
+            for (int held = 0; held <= ALL_HELD; held++) {
+                int product = 1;
+                for (int reel = 0; reel < REELS; reel++) {
+                    product *= (held >> reel & 1) == 1 ? stops[reel] : 1;
+                }
+                products[held] = product;
+            }
         }
 
         boolean hasStop(int reel, int stop) {
@@ -490,17 +525,12 @@ public final class ThreeReels {
         }
 
         int endings() {
-            return stopsHeld(ALL_HELD);
+            return products[ALL_HELD];
         }
 
+        /** The stops of the held reels, multiplied. */
         int stopsHeld(int held) {
-            int product = 1;
-            for (int reel = 0; reel < REELS; reel++) {
-                if ((held >> reel & 1) == 1) {
-                    product *= stops[reel];
-                }
-            }
-            return product;
+            return products[held];
         }
 
         int shown(int reel, int stop) {
@@ -521,6 +551,7 @@ public final class ThreeReels {
 
         void blank(int reel, int n) {
             stops[reel] = n;
+            multiply();
             for (int stop = 0; stop < MOST_STOPS; stop++) {
                 put(reel, stop, 0);
             }
@@ -654,18 +685,16 @@ public final class ThreeReels {
         }
     }
 
-    /** What all endings pay: together, with one stop held, with two held, and how many pay alike. */
+    /** What all endings pay: together, with one stop held, with two held, and how many pay. */
     private static final class Survey {
         private static final int PAIRS = MOST_STOPS * MOST_STOPS;
 
-        private final PayCounts pays = new PayCounts();
         private final long[] one = new long[REELS * MOST_STOPS];
         private final long[] two = new long[REELS * PAIRS];
         private long sum = 0;
         private int hits = 0;
 
         void begin() {
-            pays.begin();
             Arrays.fill(one, 0);
             Arrays.fill(two, 0);
             sum = 0;
@@ -673,7 +702,6 @@ public final class ThreeReels {
         }
 
         void add(int a, int b, int c, int v) {
-            pays.add(v);
             if (v == 0) {
                 return;
             }

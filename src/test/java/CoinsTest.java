@@ -189,7 +189,10 @@ public final class CoinsTest {
         x.reel(2, 4);
         x.play(0, 0, 3);
         due("seen anew", x.coins(6), 1);
+        due("favoured(1) anew", x.favoured(1), 0);
         due("favoured(2) anew", x.favoured(2), 3);
+        x.play(1, 1, 2);
+        due("favoured(0) of 0 and 1", x.favoured(0), 0);
     }
 
     private static long mixed(long... values) {

@@ -154,11 +154,38 @@ public final class HoldsTest {
         due("change(0, 10000000, 10000000)", x.change(0, 10000000, 10000000), -1);
     }
 
+    /** Reels of 4, 5 and 6 stops, and one row that asks for another picture on each. */
+    private static void changeOfUneven() {
+        ThreeReels x = new ThreeReels();
+        x.reel(1, 5);
+        x.reel(2, 6);
+        x.pay(1, 2, 3, 120);
+        x.picture(0, 2, 1);
+        x.picture(0, 3, 1);
+        x.picture(1, 0, 2);
+        x.picture(2, 1, 3);
+        x.picture(2, 3, 3);
+        x.picture(2, 5, 3);
+        // 2 * 1 * 3 of 120 endings pay 120
+        due("uneven: all(3)", x.all(3), 6000);
+        due("uneven: one 1 more", x.change(0, 9000, 9000), 1);
+        due("uneven: one 1 less", x.change(0, 3000, 3000), 20);
+        due("uneven: as many on reel 0", x.change(0, 6000, 6000), 2);
+        due("uneven: one 2 more", x.change(1, 12000, 12000), 12);
+        due("uneven: one 2 less", x.change(1, 0, 5999), 0);
+        due("uneven: as many on reel 1", x.change(1, 6000, 6000), 11);
+        due("uneven: one 3 more", x.change(2, 8000, 8000), 3);
+        due("uneven: one 3 less", x.change(2, 4000, 4000), 10);
+        due("uneven: as many on reel 2", x.change(2, 6000, 6000), 1);
+        due("uneven: two 1 more", x.change(0, 12000, 12000), -1);
+    }
+
     public static void main(String[] args) {
         worth();
         hold();
         nudge();
         change();
+        changeOfUneven();
         CHECKS.finish();
     }
 }

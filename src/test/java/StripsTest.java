@@ -239,6 +239,66 @@ public final class StripsTest {
         due("all(SMALL)", x.all(SMALL), -2);
     }
 
+    /** Reels of 4, 5 and 6 stops with one 1 each, at their last stops. */
+    private static ThreeReels uneven() {
+        ThreeReels x = new ThreeReels();
+        for (int reel = 0; reel < 3; reel++) {
+            x.reel(reel, 4 + reel);
+            x.picture(reel, 3 + reel, 1);
+        }
+        return x;
+    }
+
+    private static void unevenReels() {
+        ThreeReels x = uneven();
+        x.pay(1, 1, 1, 100);
+        x.pay(1, -1, -1, 1);
+        x.pay(-1, 1, -1, 10);
+        due("uneven: rows(0)", x.rows(0), 1);
+        due("uneven: rows(1)", x.rows(1), 29);
+        due("uneven: rows(2)", x.rows(2), 3 * 6);
+        due("uneven: misses(1)", x.misses(1), 2 + 2 + 2);
+        due("uneven: misses(0)", x.misses(0), 4 * 5 + 3 * 5 + 3 * 4);
+        x.picture(0, 1, 1);
+        x.picture(1, 0, 1);
+        due("uneven: misses(1), two apart and two side by side", x.misses(1), 2 * 2 + 2 * 2 + 2 * 4);
+        x = uneven();
+        x.pay(1, 1, 1, 100);
+        x.pay(1, -1, -1, 1);
+        x.pay(-1, 1, -1, 10);
+        x.lines(3);
+        due("uneven: the last stops", x.ending(3, 4, 5), 100);
+        due("uneven: above them", x.ending(0, 0, 0), 100);
+        due("uneven: below them", x.ending(2, 3, 4), 100);
+        due("uneven: 1 of reel 0 below", x.ending(2, 0, 4), 11);
+        due("uneven: 1 of reel 1 below", x.ending(0, 3, 2), 11);
+        due("uneven: all(1)", x.all(1), 3 * (100 + 29 + 180));
+    }
+
+    /** What was asked for before a change is not answered again after it. */
+    private static void changesTell() {
+        ThreeReels x = small();
+        due("before a row", x.all(1), 0);
+        x.pay(1, -1, -1, 3);
+        due("after a row", x.all(1), 48);
+        due("before a lay", x.all(2), 16);
+        x.count(1, 4);
+        x.lay(0);
+        due("after a lay", x.all(2), 64);
+        x.reel(0, 5);
+        due("after a reel", x.all(2), 0);
+        x.picture(0, 0, 1);
+        due("after a picture", x.all(2), 16);
+        x.reel(0, 5);
+        due("stop 0 is blank, too", x.at(0, 0), 0);
+        x.picture(0, 0, 1);
+        due("before lines", x.all(1), 48);
+        x.lines(2);
+        due("after lines", x.all(1), 96);
+        x.clear();
+        due("after clear", x.all(1), 0);
+    }
+
     private static void dearest() {
         ThreeReels x = new ThreeReels();
         for (int reel = 0; reel < 3; reel++) {
@@ -294,6 +354,8 @@ public final class StripsTest {
         pay();
         lines();
         all();
+        unevenReels();
+        changesTell();
         dearest();
         rows();
         misses();
