@@ -141,6 +141,31 @@ public final class CoinsTest {
         due("many pays: all(4)", x.all(4), plain.all(4));
     }
 
+    /** Reels of 4, 5 and 6 stops whose pays let the hopper grow, for each number of lines. */
+    private static void dryOfUneven() {
+        ThreeReels x = new ThreeReels();
+        PlainReels plain = new PlainReels();
+        for (int reel = 0; reel < 3; reel++) {
+            x.reel(reel, 4 + reel);
+            plain.reel(reel, 4 + reel);
+            x.picture(reel, 3, 1);
+            plain.picture(reel, 3, 1);
+        }
+        x.pay(1, 1, -1, 30);
+        plain.pay(1, 1, -1, 30);
+        x.pay(1, -1, 1, 7);
+        plain.pay(1, -1, 1, 7);
+        for (int lines = 1; lines <= 3; lines++) {
+            x.lines(lines);
+            plain.lines(lines);
+            for (int t = 0; t <= 50; t += 5) {
+                for (int h = 0; h <= 100; h += 20) {
+                    due("uneven, " + lines + " lines: dry(" + h + ", " + t + ")", x.dry(h, t), plain.dry(h, t));
+                }
+            }
+        }
+    }
+
     private static void favoured() {
         ThreeReels x = new ThreeReels();
         x.reel(2, 20);
@@ -232,6 +257,7 @@ public final class CoinsTest {
         play();
         dry();
         dryOfManyPays();
+        dryOfUneven();
         favoured();
         twoHundredSeen();
         digest();

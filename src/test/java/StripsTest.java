@@ -262,6 +262,8 @@ public final class StripsTest {
         x.picture(0, 1, 1);
         x.picture(1, 0, 1);
         due("uneven: misses(1), two apart and two side by side", x.misses(1), 2 * 2 + 2 * 2 + 2 * 4);
+        x.picture(2, 2, 1);
+        due("uneven: misses(1), two apart on reel 2, too", x.misses(1), 2 * 4 + 2 * 4 + 4 * 4);
         x = uneven();
         x.pay(1, 1, 1, 100);
         x.pay(1, -1, -1, 1);
@@ -272,6 +274,26 @@ public final class StripsTest {
         due("uneven: below them", x.ending(2, 3, 4), 100);
         due("uneven: 1 of reel 0 below", x.ending(2, 0, 4), 11);
         due("uneven: 1 of reel 1 below", x.ending(0, 3, 2), 11);
+        x.clear();
+        x.pay(0, 0, 0, 1);
+        x.pay(1, 0, 0, 20);
+        x.pay(0, 1, 0, 300);
+        x.pay(0, 0, 1, 4000);
+        due("uneven: reel 0 goes round", x.ending(3, 1, 1), 22);
+        due("uneven: reel 1 goes round", x.ending(1, 4, 1), 302);
+        due("uneven: reel 2 goes round", x.ending(1, 1, 5), 4002);
+        due("uneven: stop 3 of reel 1 does not go round", x.ending(1, 3, 1), 302);
+        due("uneven: stop 4 of reel 2 does not go round", x.ending(1, 1, 4), 4002);
+        x.picture(0, 0, 2);
+        x.picture(1, 0, 2);
+        x.picture(2, 0, 2);
+        x.pay(2, 2, 2, 7);
+        due("uneven: 2 below the last stops, 0 above", x.ending(3, 4, 5), 8);
+        due("uneven: 2 on reel 0 alone below", x.ending(3, 1, 1), 20);
+        x.clear();
+        x.pay(1, 1, 1, 100);
+        x.pay(1, -1, -1, 1);
+        x.pay(-1, 1, -1, 10);
         due("uneven: all(1)", x.all(1), 3 * (100 + 29 + 180));
     }
 
