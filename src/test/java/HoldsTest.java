@@ -178,6 +178,12 @@ public final class HoldsTest {
         due("uneven: one 3 less", x.change(2, 4000, 4000), 10);
         due("uneven: as many on reel 2", x.change(2, 6000, 6000), 1);
         due("uneven: two 1 more", x.change(0, 12000, 12000), -1);
+        x.clear();
+        x.pay(1, -1, -1, 8);
+        for (int stop = 0; stop < 4; stop++) {
+            x.picture(0, stop, 1);
+        }
+        due("no stop behind the last", x.change(0, 10000, 10000), -1);
     }
 
     public static void main(String[] args) {

@@ -264,6 +264,8 @@ public final class StripsTest {
         due("uneven: misses(1), two apart and two side by side", x.misses(1), 2 * 2 + 2 * 2 + 2 * 4);
         x.picture(2, 2, 1);
         due("uneven: misses(1), two apart on reel 2, too", x.misses(1), 2 * 4 + 2 * 4 + 4 * 4);
+        x.picture(0, 0, 1);
+        due("uneven: misses(1), three of four on reel 0", x.misses(1), 1 * 4 + 2 * 6 + 4 * 6);
         x = uneven();
         x.pay(1, 1, 1, 100);
         x.pay(1, -1, -1, 1);
