@@ -25,6 +25,10 @@ final class Checks {
         }
     }
 
+    int looked() {
+        return looked;
+    }
+
     void finish() {
         System.out.println(looked + " looked at, " + wrong + " wrong");
         if (wrong != 0 || looked == 0) {
