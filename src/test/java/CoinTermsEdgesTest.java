@@ -1,3 +1,5 @@
+import java.util.HashSet;
+import java.util.Set;
 import java.util.function.Supplier;
 
 /** The boundary cases of the section "Terms" for coins, chances and refusals, sentence by sentence. */
@@ -204,6 +206,45 @@ public final class CoinTermsEdgesTest {
         dueBits("all have it", x.dry(0, 1), 1.0);
     }
 
+    /** Each three of 0 .. 3, in some order, stands side by side on this strip once. */
+    private static final int[] ALL_THREES = {0, 0, 0, 1, 1, 1, 2, 0, 2, 0, 3, 1, 3, 1, 2, 2, 2, 3, 3, 3};
+    /** Each three of 0 and 1, in each order, stands side by side on this strip. */
+    private static final int[] ALL_BITS = {0, 0, 0, 1, 0, 1, 1, 1, 0, 0, 0, 0, 0, 0, 0, 0, 0, 0, 0, 0};
+    /** Of these and 0 no two threes add up to the same. */
+    private static final int[] APART = {1, 4, 13, 32, 71, 124, 218, 375, 572, 744, 1208, 1556};
+
+    /** Twelve rows or none on three LINES in every mixture: 455 different pays, as many as there can be. */
+    private static void dryOfAllSums() {
+        ThreeReels x = Edges.reelsOf(20);
+        PlainReels plain = new PlainReels();
+        int[][] strips = {ALL_BITS, ALL_BITS, ALL_THREES};
+        for (int reel = 0; reel < 3; reel++) {
+            plain.reel(reel, 20);
+            for (int stop = 0; stop < 20; stop++) {
+                x.picture(reel, stop, strips[reel][stop]);
+                plain.picture(reel, stop, strips[reel][stop]);
+            }
+        }
+        for (int row = 0; row < 12; row++) {
+            x.pay(row % 2, row / 2 % 2, row / 4, APART[row]);
+            plain.pay(row % 2, row / 2 % 2, row / 4, APART[row]);
+        }
+        x.lines(3);
+        plain.lines(3);
+        x.room(200);
+        plain.room(200);
+        Set<Integer> sums = new HashSet<>();
+        for (int ending = 0; ending < 8000; ending++) {
+            sums.add(plain.ending(ending / 400, ending / 20 % 20, ending % 20));
+        }
+        due("different pays", sums.size(), 455);
+        for (int h : new int[] {0, 1, 100, 199, 200}) {
+            for (int t : new int[] {0, 1, 2, 50}) {
+                due("dry(" + h + ", " + t + ")", x.dry(h, t), plain.dry(h, t));
+            }
+        }
+    }
+
     private static void seenTwoHundred() {
         ThreeReels x = new ThreeReels();
         for (int game = 1; game <= 199; game++) {
@@ -360,6 +401,7 @@ public final class CoinTermsEdgesTest {
         EDGES.sentence("h grows by LINES (ROOM at most)", CoinTermsEdgesTest::dryRoomAtMost);
         EDGES.sentence("a sum, from 0.0 on, over pays v of ENDINGS, rising", CoinTermsEdgesTest::drySumRises);
         EDGES.sentence("as many as c: (c by ALL)", CoinTermsEdgesTest::dryOfAllEndings);
+        EDGES.sentence("over pays v of ENDINGS", CoinTermsEdgesTest::dryOfAllSums);
         EDGES.sentence("SEEN: STOPS of REELS at which games ended, 200 at most", CoinTermsEdgesTest::seenTwoHundred);
         EDGES.sentence("FAVOURED of a REEL: .. (of like ones the least)", CoinTermsEdgesTest::favouredOfLikeOnes);
         EDGES.sentence("HOW ODD: the chance of m or more of M at 1 by n each", CoinTermsEdgesTest::howOdd);

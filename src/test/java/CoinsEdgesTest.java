@@ -259,6 +259,28 @@ public final class CoinsEdgesTest {
         EDGES.changesNothing(Edges::busy, "digest()", y -> y.digest());
     }
 
+    private static void digestInOrder() {
+        ThreeReels x = new ThreeReels();
+        x.reel(0, 20);
+        x.reel(1, 5);
+        long h = mixed(251, 400, 0, 0, 0, 20);
+        for (int stop = 0; stop < 20; stop++) {
+            x.picture(0, stop, stop * 3 % 7);
+            h = mixed(h, stop * 3 % 7);
+        }
+        x.picture(1, 0, 2);
+        x.picture(1, 4, 5);
+        x.picture(2, 3, 6);
+        h = mixed(h, 5, 2, 0, 0, 0, 5, 4, 0, 0, 0, 6);
+        h = mixed(h, 0, 0, 0, 0, 0, 0, 0, 0);
+        // on REEL 0 no STOP has 7, so no row pays
+        for (int row = 0; row < 12; row++) {
+            x.pay(7, row % 9 - 1, (row + 4) % 9 - 1, row * 31);
+            h = mixed(h, 7, row % 9 - 1, (row + 4) % 9 - 1, row * 31);
+        }
+        due("digest()", x.digest(), mixed(h, 1, 0, 0, 0, 0, 0, 0, 0, 100));
+    }
+
     private static void digestOfEach() {
         ThreeReels x = new ThreeReels();
         x.reel(1, 5);
@@ -300,6 +322,7 @@ public final class CoinsEdgesTest {
         EDGES.sentence("24: BAD", CoinsEdgesTest::oddBad);
         EDGES.sentence("25: digest of a new object", CoinsEdgesTest::digestOfNew);
         EDGES.sentence("25: digest of a full one", CoinsEdgesTest::digestOfFull);
+        EDGES.sentence("25: of REELS n, PICTURES; of PAYS three PICTURES, how much", CoinsEdgesTest::digestInOrder);
         EDGES.sentence("25: for each v", CoinsEdgesTest::digestOfEach);
         EDGES.finish();
     }

@@ -143,6 +143,17 @@ final class Edges {
         return x;
     }
 
+    /** REELS of 4, 5 and 20 STOPS with PICTURE 1 at their last STOPS. */
+    static ThreeReels uneven() {
+        ThreeReels x = new ThreeReels();
+        x.reel(1, 5);
+        x.reel(2, 20);
+        x.picture(0, 3, 1);
+        x.picture(1, 4, 1);
+        x.picture(2, 19, 1);
+        return x;
+    }
+
     /** REELS of 4 STOPS, on each the PICTURES 0, 1, 2, 3: a row of PAYS names one ENDING. */
     static ThreeReels numbered() {
         ThreeReels x = new ThreeReels();

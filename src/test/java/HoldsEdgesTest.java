@@ -96,6 +96,29 @@ public final class HoldsEdgesTest {
         due("NONE: none", x.change(1, 20001, 10000000), Edges.NONE);
     }
 
+    private static void changeOfUneven() {
+        ThreeReels x = new ThreeReels();
+        x.reel(1, 5);
+        x.reel(2, 20);
+        x.pay(1, 2, 3, 400);
+        x.picture(0, 2, 1);
+        x.picture(0, 3, 1);
+        x.picture(1, 4, 2);
+        x.picture(2, 0, 3);
+        x.picture(2, 1, 3);
+        x.picture(2, 19, 3);
+        due("2, 1 and 3 of 400", x.all(3), 6000);
+        due("one 1 more", x.change(0, 9000, 9000), 1);
+        due("one 1 less", x.change(0, 3000, 3000), 20);
+        due("as many 1", x.change(0, 6000, 6000), 2);
+        due("one 2 more", x.change(1, 12000, 12000), 2);
+        due("one 2 less", x.change(1, 0, 0), 40);
+        due("as many 2", x.change(1, 6000, 6000), 1);
+        due("one 3 more", x.change(2, 8000, 8000), 23);
+        due("one 3 less", x.change(2, 4000, 4000), 0);
+        due("as many 3", x.change(2, 6000, 6000), 21);
+    }
+
     private static void changeBad() {
         EDGES.range(Edges::busy, "change(?, 0, 10000000)", 0, 2, (x, v) -> x.change(v, 0, 10000000));
         EDGES.range(Edges::busy, "change(0, ?, 10000000)", 0, 10000000, (x, v) -> x.change(0, v, 10000000));
@@ -118,6 +141,7 @@ public final class HoldsEdgesTest {
         EDGES.sentence("16: what it pays (what = 0), 100 d0 and 10 d1 and d2 (1)", HoldsEdgesTest::nudgeTells);
         EDGES.sentence("16: BAD", HoldsEdgesTest::nudgeBad);
         EDGES.sentence("17: 10 times the STOP and the PICTURE (what there is stays). NONE: none", HoldsEdgesTest::changeAnswers);
+        EDGES.sentence("17: CHANGED, of REELS of 4, 5 and 20 STOPS", HoldsEdgesTest::changeOfUneven);
         EDGES.sentence("17: BAD: lo, hi 0 .. 10000000, lo above hi", HoldsEdgesTest::changeBad);
         EDGES.finish();
     }

@@ -333,6 +333,15 @@ public final class StripsEdgesTest {
             due("row 2, LINES " + lines, x.rows(2), 12);
             due("row 3, LINES " + lines, x.rows(3), 0);
         }
+        x = Edges.uneven();
+        x.pay(1, -1, -1, 1);
+        x.pay(-1, 1, -1, 1);
+        x.pay(-1, -1, 1, 1);
+        x.pay(0, 0, 0, 1);
+        due("1 on 1 of 4", x.rows(0), 5 * 20);
+        due("1 on 1 of 5", x.rows(1), 3 * 20);
+        due("1 on 1 of 20", x.rows(2), 3 * 4);
+        due("0 on 3, 4 and 19", x.rows(3), 3 * 4 * 19);
     }
 
     private static void rowsBad() {

@@ -288,6 +288,13 @@ public final class TermsEdgesTest {
         x.picture(2, 1, 4);
         x.picture(2, 19, 4);
         due("three side by side round the end: STOPS 2 and 18", x.misses(4), 2 + 2 * 3 + 2 * 3);
+        x = Edges.uneven();
+        due("the last of 4, 5 and 20", x.misses(1), 2 + 2 + 2);
+        x.picture(1, 0, 1);
+        x.picture(2, 1, 1);
+        // near it are 2 STOPS of REEL 0, 2 of REEL 1 (1 and 3), 3 of REEL 2 (STOP 0, between two, once)
+        due("two round the ends", x.misses(1), 2 * 2 * 2 + 2 * 1 * 2 + 3 * 1 * 2);
+        due("0 of 3, 3 and 18", x.misses(0), 1 * 3 * 18 + 2 * 3 * 18 + 2 * 3 * 3);
     }
 
     private static void worthOfHolds() {
@@ -368,6 +375,10 @@ public final class TermsEdgesTest {
         x.pay(3, 3, 3, 1);
         // of 64: one holds all (64), 3 * 3 hold two (16), 3 * 9 hold one (4), 27 hold none (1)
         due("each number held", x.all(4), 64 + 9 * 16 + 27 * 4 + 27);
+        x = Edges.uneven();
+        x.pay(1, 1, 1, 1);
+        due("of 4, 5 and 20 STOPS", x.all(4), 400 + 19 * 20 + 4 * 80 + 3 * 100
+            + 4 * 19 * 4 + 3 * 19 * 5 + 3 * 4 * 20 + 3 * 4 * 19);
     }
 
     public static void main(String[] args) {
