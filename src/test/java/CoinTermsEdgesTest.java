@@ -199,6 +199,9 @@ public final class CoinTermsEdgesTest {
         dueBits("two of four have it", x.dry(0, 1), 0.5);
         x.lines(3);
         dueBits("three of four have it", x.dry(0, 1), 0.75);
+        // of what was counted for other LINES nothing is left: 1 in 4 pays 5
+        x.lines(1);
+        dueBits("in one of two games", x.dry(0, 2), 0.75 * 0.25 + 0.25);
         x.reel(0, 8);
         dueBits("blank", x.dry(0, 1), 0.0);
         x.count(1, 4);
@@ -241,6 +244,30 @@ public final class CoinTermsEdgesTest {
         for (int h : new int[] {0, 1, 100, 199, 200}) {
             for (int t : new int[] {0, 1, 2, 50}) {
                 due("dry(" + h + ", " + t + ")", x.dry(h, t), plain.dry(h, t));
+            }
+        }
+    }
+
+    /** One ENDING in 400 pays 90 or more: THE HOPPER mostly grows, by one, two or three a game. */
+    private static void dryWhileItGrows() {
+        ThreeReels x = Edges.uneven();
+        PlainReels plain = new PlainReels();
+        plain.reel(1, 5);
+        plain.reel(2, 20);
+        plain.picture(0, 3, 1);
+        plain.picture(1, 4, 1);
+        plain.picture(2, 19, 1);
+        x.pay(1, 1, 1, 90);
+        plain.pay(1, 1, 1, 90);
+        x.pay(1, 1, -1, 31);
+        plain.pay(1, 1, -1, 31);
+        for (int lines = 1; lines <= 3; lines++) {
+            x.lines(lines);
+            plain.lines(lines);
+            for (int t = 1; t <= 50; t += 7) {
+                for (int h = 0; h <= 100; h += 25) {
+                    due("LINES " + lines + ": dry(" + h + ", " + t + ")", x.dry(h, t), plain.dry(h, t));
+                }
             }
         }
     }
@@ -401,6 +428,7 @@ public final class CoinTermsEdgesTest {
         EDGES.sentence("h grows by LINES (ROOM at most)", CoinTermsEdgesTest::dryRoomAtMost);
         EDGES.sentence("a sum, from 0.0 on, over pays v of ENDINGS, rising", CoinTermsEdgesTest::drySumRises);
         EDGES.sentence("as many as c: (c by ALL)", CoinTermsEdgesTest::dryOfAllEndings);
+        EDGES.sentence("D(h, t): h grows by LINES", CoinTermsEdgesTest::dryWhileItGrows);
         EDGES.sentence("over pays v of ENDINGS", CoinTermsEdgesTest::dryOfAllSums);
         EDGES.sentence("SEEN: STOPS of REELS at which games ended, 200 at most", CoinTermsEdgesTest::seenTwoHundred);
         EDGES.sentence("FAVOURED of a REEL: .. (of like ones the least)", CoinTermsEdgesTest::favouredOfLikeOnes);
