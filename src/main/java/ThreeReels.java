@@ -127,20 +127,7 @@ public final class ThreeReels {
         if (!within(what, 0, 4)) {
             return BAD;
         }
-        if (what == 0) {
-            return strips.endings();
-        }
-        surveyEndings();
-        switch (what) {
-            case 1:
-                return survey.sum;
-            case 2:
-                return survey.hits;
-            case 3:
-                return cut(survey.sum * 1000, (long) strips.endings() * lineCount);
-            default:
-                return playedBest();
-        }
+        return what == 4 ? playedBest() : total(what);
     }
 
     public int rows(int i) {
@@ -331,7 +318,7 @@ public final class ThreeReels {
     public long digest() {
         long h = 251;
         for (int what = 0; what <= 3; what++) {
-            h = 31 * h + all(what);
+            h = 31 * h + total(what);
         }
         h = strips.mixedInto(h);
         for (int picture = 0; picture < PICTURES; picture++) {
@@ -423,6 +410,21 @@ public final class ThreeReels {
         paysCounted = true;
     }
 
+    /** What all(0) to all(3) answer. */
+    private long total(int what) {
+        surveyEndings();
+        switch (what) {
+            case 0:
+                return strips.endings();
+            case 1:
+                return survey.sum;
+            case 2:
+                return survey.hits;
+            default:
+                return cut(survey.sum * 1000, (long) strips.endings() * lineCount);
+        }
+    }
+
     private long worthOf(int a, int b, int c, int held) {
         long pays = held == ALL_HELD ? endingPays(a, b, c) : survey.heldPays(a, b, c, held);
         return pays * strips.stopsHeld(held);
@@ -443,6 +445,7 @@ public final class ThreeReels {
     }
 
     private long playedBest() {
+        surveyEndings();
         long sum = 0;
         for (int a = 0; a < strips.stopsOf(0); a++) {
             for (int b = 0; b < strips.stopsOf(1); b++) {

