@@ -15,6 +15,8 @@ public final class RandomRunsTest {
     private final int mostStops;
     private final int pictures;
     private final String run;
+    /** Mostly plays and keeps its reels, so that more than 200 games end. */
+    private final boolean playful;
     private int calls = 0;
 
     private RandomRunsTest(int seed, Checks checks) {
@@ -23,6 +25,7 @@ public final class RandomRunsTest {
         this.mostStops = seed % 10 == 0 ? 20 : 4 + seed % 6;
         this.pictures = 2 + seed % 7;
         this.run = "run " + seed + ": ";
+        this.playful = seed % 4 == 1;
     }
 
     /** Mostly from lo to hi, now and then something else. */
@@ -150,7 +153,8 @@ public final class RandomRunsTest {
 
     private void step() {
         int pick = random.nextInt(100);
-        if (pick < 1) set();
+        if (playful && random.nextInt(5) != 0) play();
+        else if (pick < 1 && !playful) set();
         else if (pick < 20) paint();
         else if (pick < 28) laying();
         else if (pick < 38) pay();
@@ -169,9 +173,10 @@ public final class RandomRunsTest {
 
     public static void main(String[] args) {
         Checks checks = new Checks();
-        for (int seed = 1; seed <= 120; seed++) {
+        for (int seed = 1; seed <= 160; seed++) {
             RandomRunsTest test = new RandomRunsTest(seed, checks);
-            for (int reel = 0; reel < 3; reel++) {
+            // every third object goes on with the reels that it has at first
+            for (int reel = 0; reel < 3 && seed % 3 != 0; reel++) {
                 int n = test.mostStops;
                 test.due("reel(" + reel + ", " + n + ")", test.x.reel(reel, n), test.plain.reel(reel, n));
             }
